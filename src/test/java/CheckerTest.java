@@ -170,6 +170,15 @@ final class CheckerTest {
         due.is("though the loop has it", 1, loop.kindAt(0, 4, 11));
         loop.change(0, 2, 3, 0, 0);
         due.is("a loop that takes the int away", WRONG, loop.check(0));
+        FrameForge late = Due.forge(1, Due.in(1), Due.in(3, 1), Due.in(0), Due.in(0), Due.in(2, 1), Due.in(25), Due.in(13), Due.in(3, 1), Due.in(11, 0, 2));
+        due.is("a loop that takes the int away further on", WRONG, late.check(0));
+        late.change(0, 7, 4, 0, 0);
+        due.is("a loop that leaves it", 9, late.check(0));
+        late.change(0, 4, 1, 0, 0);
+        late.change(0, 7, 3, 1, 0);
+        due.is("a loop that takes away what is not needed", 9, late.check(0));
+        due.is("it is not there in the loop", NONE, late.kindAt(0, 4, 11));
+        due.is("it is there before", NONE, late.kindAt(0, 1, 11));
     }
 
     private static void rowsLead() {

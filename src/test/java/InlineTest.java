@@ -57,6 +57,15 @@ final class InlineTest {
             due.is("f by op " + user[0], 6, y.inline(0, 1));
             due.is("STORE into f", 5, y.code(0, 1, 1));
         }
+        FrameForge first = new FrameForge();
+        Due.put(first, 0, 3, Due.in(27, 2, 1), Due.in(21, 1), Due.in(22));
+        Due.put(first, 1, 0, Due.in(1, 2), Due.in(3, 4), Due.in(2, 4), Due.in(22));
+        due.is("the greatest LOCAL", 6, first.inline(0, 1));
+        first.method(0, 0, false);
+        Due.put(first, 0, 1, Due.in(27, 0, 1), Due.in(21, 1), Due.in(22), Due.in(27, 3, 1));
+        due.is("the greatest LOCAL is too great", NONE, first.inline(0, 1));
+        Due.put(first, 1, 0, Due.in(23, 0, 1), Due.in(3, 7), Due.in(1), Due.in(22));
+        due.is("the greatest LOCAL at PLACE 1", NONE, first.inline(0, 1));
         int[] others = {14, 1, 21, 12};
         for (int op : others) {
             FrameForge y = new FrameForge();
@@ -146,6 +155,8 @@ final class InlineTest {
             boolean none = op == 18 || op == 19 || op == 23 || op == 24;
             due.is("has op " + op, none ? NONE : 6, answer(with(false, load, end, Due.in(op)), 1));
         }
+        due.is("has ENTER at PLACE 0", WRONG, answer(with(false, Due.in(18), load, end), 1));
+        due.is("has GOSUB at PLACE 0", NONE, answer(with(false, Due.in(23, 0, 1), Due.in(4), load, end), 1));
         due.is("more than x at a RETURN", NONE, answer(with(false, load, load, end), 1));
         due.is("more than x at a RETURN that is not come to", 8, answer(with(false, Due.in(11, 0, 3), load, load, load, end), 1));
         due.is("more than x at one of two", NONE, answer(with(false, load, load, Due.in(12, 0, 5), load, end, end), 1));

@@ -15,7 +15,9 @@ final class RunTest {
         callsAndFrames();
         nothingHandled();
         locks();
+        locksOfFrames();
         lockedMethods();
+        nothingIsLeftOver();
         traces();
         noRun();
         compare();
@@ -155,6 +157,8 @@ final class RunTest {
         x.add(0, 1, 0, 0);
         x.add(0, 22, 0, 0);
         due.is("a WRONG METHOD that is not CALLED", 0, x.run(0, 0, 9, 0, 0, 0));
+        Due.put(x, 4, 0, Due.in(21, 5), Due.in(22));
+        due.is("a CALL at PLACE 0 of a WRONG METHOD", FrameForge.WRONG, x.run(0, 4, 9, 0, 0, 0));
         Due.put(x, 4, 0, Due.in(1), Due.in(22), Due.in(21, 4));
         due.is("a METHOD that CALLS itself", 0, x.run(0, 4, 9, 0, 0, 0));
     }
@@ -276,6 +280,71 @@ final class RunTest {
         had.row(0, 3, 4, 6, 3);
         due.is("LEAVE throws at its PLACE", 0, had.run(0, 0, 99, 0, 0, 0));
         due.trace("LEAVE throws at its PLACE", had, 1, 49, 52, 53);
+    }
+
+    private static void locksOfFrames() {
+        // What the FRAME below has ENTERED is not LEFT by a FRAME that ends.
+        FrameForge x = new FrameForge();
+        Due.put(x, 0, 0, Due.in(14, 1), Due.in(5), Due.in(18), Due.in(21, 1), Due.in(25), Due.in(19), Due.in(1, 3), Due.in(22));
+        Due.put(x, 1, 0, Due.in(14, 2), Due.in(5), Due.in(18), Due.in(19), Due.in(1, 6), Due.in(22));
+        due.is("locks of two FRAMES", 0, x.run(0, 0, 99, 0, 0, 0));
+        due.trace("locks of two FRAMES", x, 17, 18, 33, 34, 35, 96, 19);
+        x.change(1, 3, 4, 0, 0);
+        due.is("the upper one has not LEFT", 19, x.run(0, 0, 99, 0, 0, 0));
+        due.trace("the upper one has not LEFT", x, 17, 18, 33, 34, 35, 49, 52, 19, 49, 52);
+        // A, B, C are ENTERED; B, A, C are LEFT.
+        FrameForge order = Due.forge(0, Due.in(14), Due.in(3, 0), Due.in(14), Due.in(3, 1), Due.in(14), Due.in(3, 2), Due.in(2, 0), Due.in(18), Due.in(2, 1), Due.in(18),
+            Due.in(2, 2), Due.in(18), Due.in(2, 1), Due.in(19), Due.in(2, 0), Due.in(19), Due.in(2, 2), Due.in(19), Due.in(1, 1), Due.in(22));
+        due.is("LEFT in another order", 0, order.run(0, 0, 99, 0, 0, 0));
+        due.trace("LEFT in another order", order, 1, 1, 1, 18, 34, 50, 35, 19, 51);
+        order.change(0, 15, 4, 0, 0);
+        due.is("one is not LEFT", 19, order.run(0, 0, 99, 0, 0, 0));
+        due.trace("one is not LEFT", order, 1, 1, 1, 18, 34, 50, 35, 51, 19, 49, 52);
+        order.change(0, 14, 2, 1, 0);
+        order.change(0, 15, 19, 0, 0);
+        due.is("one is LEFT twice", 19, order.run(0, 0, 99, 0, 0, 0));
+        due.trace("one is LEFT twice", order, 1, 1, 1, 18, 34, 50, 35, 49, 52, 51, 19, 49, 52);
+    }
+
+    private static void nothingIsLeftOver() {
+        FrameForge x = new FrameForge();
+        Due.put(x, 1, 0, Due.in(14, 3), Due.in(5), Due.in(1, 42), Due.in(16), Due.in(15), Due.in(22));
+        Due.put(x, 2, 0, Due.in(14, 3), Due.in(15), Due.in(22));
+        Due.put(x, 3, 0, Due.in(13), Due.in(20));
+        Due.put(x, 4, 0, Due.in(1, 1), Due.in(1, 1), Due.in(1, 1), Due.in(1, 1), Due.in(21, 5), Due.in(22));
+        Due.put(x, 5, 0, Due.in(1, 8), Due.in(22));
+        due.is("an ITEM", 0, x.run(0, 1, 99, 0, 0, 0));
+        due.is("an ITEM, VALUE", 42, x.ran(0));
+        due.is("a new ITEM", 0, x.run(0, 2, 99, 0, 0, 0));
+        due.is("a new ITEM, VALUE", 0, x.ran(0));
+        due.is("OBJECTS anew", 1, x.ran(2));
+        due.is("a VALUE", 0, x.run(0, 4, 99, 0, 0, 0));
+        due.is("FRAMES", 2, x.ran(3));
+        due.is("no OBJECTS", 0, x.ran(2));
+        due.is("no VALUE", 18, x.run(0, 3, 99, 0, 0, 0));
+        due.is("no VALUE is left", 0, x.ran(0));
+        due.is("FRAMES anew", 1, x.ran(3));
+        for (int i = 0; i < 20; i++) {
+            due.is("STOPPED with VALUES on the STACK", FrameForge.STOPPED, x.run(0, 4, 4, 0, 0, 0));
+        }
+        due.is("a STACK anew", 0, x.run(0, 4, 99, 0, 0, 0));
+        due.is("a STACK anew, VALUE", 8, x.ran(0));
+        FrameForge locks = Due.forge(0, Due.in(14, 7), Due.in(18), Due.in(11, 0, 0));
+        Due.put(locks, 1, 0, Due.in(14), Due.in(5), Due.in(18), Due.in(19), Due.in(1, 1), Due.in(22));
+        for (int i = 0; i < 5; i++) {
+            due.is("STOPPED with locks", FrameForge.STOPPED, locks.run(0, 0, 1000, 0, 0, 0));
+        }
+        due.is("no locks", 0, locks.run(0, 1, 99, 0, 0, 0));
+        // What lies below what is THROWN is gone each time.
+        FrameForge stack = Due.forge(1, Due.in(1, 5), Due.in(1, 6), Due.in(1, 7), Due.in(13), Due.in(20), Due.in(4), Due.in(27, 0, -1), Due.in(2, 0), Due.in(12, 1, 0), Due.in(1, 9), Due.in(22));
+        stack.row(0, 4, 5, 5, 0);
+        due.is("a STACK that is cleared", 0, stack.run(0, 0, 1000, 20, 0, 0));
+        due.is("a STACK that is cleared, VALUE", 9, stack.ran(0));
+        due.is("null above an OBJECT", -1018, result(0, 0, Due.in(14, 5), Due.in(13), Due.in(26), Due.in(22)));
+        FrameForge deep = Due.forge(0, Due.in(13), Due.in(21, 0), Due.in(22));
+        deep.row(0, 1, 2, 1, 4);
+        due.is("an OBJECT for nearly each INSTRUCTION", FrameForge.STOPPED, deep.run(0, 0, 1000, 0, 0, 0));
+        due.is("how many OBJECTS", 1000 - 23, deep.ran(2));
     }
 
     private static void lockedMethods() {

@@ -191,6 +191,8 @@ final class UnfoldTest {
         due.is("GOTO beside it", 8, unfoldOf(0, go, one, end, st, nop, back, Due.in(11, 0, 2), Due.in(11, 0, 6)));
         due.is("GOSUB to e from elsewhere", 7, unfoldOf(0, go, one, end, st, nop, back, Due.in(23, 0, 5)));
         due.is("CALL, RETURN of others between", 8, unfoldOf(0, go, one, end, st, one, end, back));
+        due.is("GOTO at PLACE 0 to b + 1", NONE, unfoldOf(1, Due.in(11, 0, 4), go, nop, st, one, end, back));
+        due.is("an end in the last PLACE but no BACK", NONE, unfoldOf(0, go, one, end, st, Due.in(11, 0, 4)));
         int[] ats = {2, 3, 4, 5, 6};
         for (int at : ats) {
             FrameForge x = Due.forge(0, Due.in(23, 0, 3), one, end, st, nop, back, Due.in(20), nop);
