@@ -18,6 +18,7 @@ final class RunTest {
         locksOfFrames();
         lockedMethods();
         nothingIsLeftOver();
+        nothingOfTheOldCode();
         traces();
         noRun();
         compare();
@@ -340,6 +341,9 @@ final class RunTest {
         stack.row(0, 4, 5, 5, 0);
         due.is("a STACK that is cleared", 0, stack.run(0, 0, 1000, 20, 0, 0));
         due.is("a STACK that is cleared, VALUE", 9, stack.ran(0));
+        due.is("a STACK that is cleared, OBJECTS", 20, stack.ran(2));
+        due.is("eight VALUES", 12345678, result(0, 0, Due.in(1, 10000000), Due.in(1, 2000000), Due.in(1, 300000), Due.in(1, 40000), Due.in(1, 5000), Due.in(1, 600),
+            Due.in(1, 70), Due.in(1, 8), Due.in(7), Due.in(7), Due.in(7), Due.in(7), Due.in(7), Due.in(7), Due.in(7), Due.in(22)));
         due.is("null above an OBJECT", -1018, result(0, 0, Due.in(14, 5), Due.in(13), Due.in(26), Due.in(22)));
         FrameForge deep = Due.forge(0, Due.in(13), Due.in(21, 0), Due.in(22));
         deep.row(0, 1, 2, 1, 4);
@@ -357,6 +361,42 @@ final class RunTest {
         due.is("LOCKED, RETURNS", 0, x.run(0, 0, 99, 0, 0, 0));
         due.trace("LOCKED, RETURNS", x, 4000 * 16 + 2, 128, 4005 * 16 + 2, 65535 * 16, 4005 * 16 + 3, 4000 * 16 + 3);
         due.is("VALUE", 4, x.ran(0));
+    }
+
+    /** Of a METHOD that was full nothing acts once it is begun anew. */
+    private static void nothingOfTheOldCode() {
+        FrameForge x = new FrameForge();
+        for (int i = 0; i < 60; i++) {
+            x.add(0, i % 2 == 0 ? 24 : 21, 0, 0);
+            x.add(1, i % 2 == 0 ? 23 : 22, 0, 0);
+        }
+        for (int i = 0; i < 8; i++) {
+            x.row(0, 0, 60, 3, 0);
+        }
+        Due.put(x, 0, 0, Due.in(1), Due.in(13), Due.in(20));
+        due.is("no old ROW leads", 3, x.check(0));
+        due.is("no old ROW HAS it", 18, x.run(0, 0, 99, 0, 0, 0));
+        Due.put(x, 0, 0, Due.in(23, 0, 3), Due.in(1), Due.in(22), Due.in(3, 0), Due.in(1), Due.in(22));
+        due.is("no old BACK", FrameForge.NONE, x.unfold(0, 0));
+        Due.put(x, 0, 0, Due.in(1), Due.in(22));
+        due.is("no old CALL", 0, x.run(0, 0, 99, 0, 0, 0));
+        Due.put(x, 0, 0, Due.in(21, 1), Due.in(22));
+        Due.put(x, 1, 0, Due.in(1), Due.in(22));
+        due.is("no old GOSUB", 3, x.inline(0, 0));
+        FrameForge full = Due.forge(0, Due.in(23, 0, 58), Due.in(1), Due.in(22));
+        for (int i = 3; i < 58; i++) {
+            full.add(0, 0, 0, 0);
+        }
+        full.add(0, 3, 0, 0);
+        full.add(0, 24, 0, 0);
+        for (int i = 0; i < 8; i++) {
+            full.row(0, 59, 60, 4, i);
+        }
+        due.is("a full METHOD, not PLAIN as it is WRONG", FrameForge.WRONG, full.unfold(0, 0));
+        full.change(0, 57, 20, 0, 0);
+        full.change(0, 4, 20, 0, 0);
+        due.is("a full METHOD", 59, full.unfold(0, 0));
+        due.is("a full METHOD, ROWS", 8, full.table(0, -1, 1));
     }
 
     private static void traces() {
