@@ -638,7 +638,6 @@ public final class FrameForge {
         }
 
         private void takeAndGive(Method method, int p) {
-            int a = method.a[p];
             switch (method.op[p]) {
                 case INT:
                     give(INT_KIND);
@@ -681,7 +680,7 @@ public final class FrameForge {
                 case STORE:
                 case BACK:
                 case INC:
-                    useLocal(method.op[p], MOST_STACK + a);
+                    useLocal(method.op[p], MOST_STACK + method.a[p]);
                     break;
                 default:
                     useObject(method.op[p]);
@@ -704,6 +703,7 @@ public final class FrameForge {
             }
         }
 
+        /** What takes an OBJECT; NOP and GOTO take none. */
         private void useObject(int op) {
             switch (op) {
                 case GET:
@@ -755,19 +755,16 @@ public final class FrameForge {
                 comeTo(method, method.b[p], now, depth);
             }
             if (op == BACK) {
-                comeBack(method, now[MOST_STACK + method.a[p]] - RETURN_KIND);
+                int start = now[MOST_STACK + method.a[p]] - RETURN_KIND;
+                for (int i = 0; i < size; i++) {
+                    if (reached[i] && method.op[i] == GOSUB && method.b[i] == start) {
+                        comeTo(method, i + 1, now, depth);
+                    }
+                }
             }
             boolean goesElsewhere = op == GOTO || op == GOSUB || op == BACK;
             if (!goesElsewhere && op != THROW && op != RETURN) {
                 comeTo(method, p + 1, now, depth);
-            }
-        }
-
-        private void comeBack(Method method, int start) {
-            for (int p = 0; p < size; p++) {
-                if (reached[p] && method.hasAt(p, GOSUB) && method.b[p] == start) {
-                    comeTo(method, p + 1, now, depth);
-                }
             }
         }
 
@@ -898,7 +895,10 @@ public final class FrameForge {
         }
     }
 
-    /** What runs METHODS that are not WRONG. */
+    /**
+     * What runs METHODS that are not WRONG: the CHECKER has looked at each PLACE that is gone to,
+     * and at the KIND of each VALUE that is used here as an OBJECT or as a RETURN.
+     */
     private static final class Machine {
         // No run makes more OBJECTS than it does INSTRUCTIONS: one that a FRAME ends by has its ENTER.
         private static final int MOST_OBJECTS = MOST_STEPS;
@@ -985,7 +985,9 @@ public final class FrameForge {
                     beginCall(frame, a);
                     break;
                 case RETURN:
-                    giveBack(frame.pop());
+                    int value = frame.pop();
+                    closeFrame();
+                    giveBack(value);
                     break;
                 case SAY:
                     ledger.note(SAID, frame.pop() & 0xFFFF);
@@ -1065,6 +1067,7 @@ public final class FrameForge {
             return condition == 1 ? x != 0 : x < 0;
         }
 
+        /** What takes an OBJECT, and NOP, which takes none. */
         private void useObject(Frame frame, int op) {
             boolean takesObject = op >= GET && op <= THROW || op == TYPE;
             if (!takesObject) {
@@ -1082,10 +1085,10 @@ public final class FrameForge {
                 frame.push(types[object]);
             } else if (op == ENTER) {
                 enterLock(object);
-            } else if (op == LEAVE) {
-                leaveLock(frame, object);
-            } else {
+            } else if (op == THROW) {
                 throwObject(object);
+            } else if (!leaveLock(frame, object)) {
+                throwNew(LOCK_TYPE);
             }
         }
 
@@ -1097,18 +1100,19 @@ public final class FrameForge {
             ledger.note(ENTERED, object);
         }
 
-        private void leaveLock(Frame frame, int object) {
+        /** LEAVES what this FRAME ENTERED latest of this OBJECT; false if there is none. */
+        private boolean leaveLock(Frame frame, int object) {
             int i = held - 1;
             while (i >= frame.firstLock && locks[i] != object) {
                 i--;
             }
             if (i < frame.firstLock) {
-                throwNew(LOCK_TYPE);
-                return;
+                return false;
             }
             held--;
             System.arraycopy(locks, i + 1, locks, i, held - i);
             ledger.note(LEFT, object);
+            return true;
         }
 
         private int make(int type) {
@@ -1142,7 +1146,6 @@ public final class FrameForge {
         }
 
         private void giveBack(int value) {
-            closeFrame();
             if (thrown != 0) {
                 return;
             }
@@ -1289,6 +1292,7 @@ public final class FrameForge {
             int to = method.to[r];
             int at = moved(method.at[r]);
             int type = method.type[r];
+            // A GOSUB throws nothing, so a ROW that had it has no call on the copy in its stead.
             draftRow(from, Math.min(to, gap), at, type);
             int shift = gap - start - 1;
             draftRow(Math.max(from, start + 1) + shift, Math.min(to, end) + shift, at, type);
