@@ -5,13 +5,19 @@ import java.util.List;
 final class Due {
     private int wrong;
     private int asked;
+    private String sentence = "";
+
+    /** The sentence of the document that the next answers are of. */
+    void of(String words) {
+        sentence = "[" + words + "] ";
+    }
 
     void is(String what, long want, long got) {
         asked++;
         if (got != want) {
             wrong++;
             if (wrong <= 40) {
-                System.out.println(what + ": due is " + want + ", answered " + got);
+                System.out.println(sentence + what + ": due is " + want + ", answered " + got);
             }
         }
     }
