@@ -87,6 +87,8 @@ final class BoundsOfCheckerTest {
         due.is("a GOSUB of another subroutine", 7, Words.check(0, "GOSUB 4; GOSUB 6; INT 0; RETURN; STORE 1; BACK 1; STORE 2; INT 0; RETURN"));
         due.is("a GOSUB that is come to behind the BACK", 9,
             Words.check(0, "GOTO 5; GOSUB 3; GOTO 7; STORE 1; BACK 1; GOSUB 3; GOTO 1; INT 0; RETURN"));
+        due.is("a GOSUB that is come to long behind the BACK", 11,
+            Words.check(0, "GOTO 5; GOSUB 3; GOTO 9; STORE 1; BACK 1; GOSUB 3; GOTO 8; GOTO 1; GOTO 7; INT 0; RETURN"));
         due.is("a GOSUB that is come to only by a ROW", 8, backByRow());
         due.is("BACK once more by the same RETURN", 4, Words.check(0, "GOSUB 3; BACK 7; NOP; STORE 7; BACK 7"));
         String two = "LOAD 0; IF 0 4; GOSUB 6; GOTO 3; GOSUB 8; GOTO 5; STORE 1; GOTO 10; STORE 1; GOTO 10; ";
@@ -363,6 +365,10 @@ final class BoundsOfCheckerTest {
         for (int m : NO_METHODS) {
             due.is("METHOD " + m, REFUSED, x.check(m));
         }
+        Words.put(x, 1, 1, "LOAD 0; IF 0 5; POP; INT 0; RETURN; INT 0; RETURN");
+        Words.put(x, 2, 0, "GOTO 6; NOP; NOP; NOP; NOP; POP; GOTO 6");
+        due.is("one that is WRONG", WRONG, x.check(1));
+        due.is("nothing is left over from it", 2, x.check(2));
         x.write(1);
         due.is("of the PROGRAM that is WRITTEN", WRONG, x.check(0));
     }

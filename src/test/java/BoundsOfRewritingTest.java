@@ -22,6 +22,7 @@ final class BoundsOfRewritingTest {
         plainBetween();
         plainPlacesInside();
         plainPlacesOutside();
+        plainPlaceAtTheBegin();
         plainRows();
         unfoldPlaces();
         unfoldRows();
@@ -170,6 +171,15 @@ final class BoundsOfRewritingTest {
             due.is(5 + its + " ROWS by inline", its > 3 ? FULL : 5, inline(x, 0, 0));
             due.is("ROWS then", its > 3 ? 5 : 5 + its, x.table(0, -1, 1));
         }
+        for (int m = 0; m < 2; m++) {
+            FrameForge x = Words.forge(0, "CALL 1; RETURN; THROW");
+            Words.put(x, 1, 0, "INT 0; RETURN; THROW");
+            for (int r = 0; r < 8; r++) {
+                x.row(m, 0, 1, 2, r);
+            }
+            due.is("8 ROWS of METHOD " + m + " alone", 5, inline(x, 0, 0));
+            due.is("ROWS then", 8, x.table(0, -1, 1));
+        }
     }
 
     private static int unfoldOf(String words) {
@@ -200,6 +210,9 @@ final class BoundsOfRewritingTest {
         due.is("no BACK", NONE, unfoldOf("GOSUB 3; INT 4; RETURN; STORE 7; INT 4; RETURN"));
         due.is("BACK in front of b alone", NONE, unfoldOf("GOSUB 4; INT 4; RETURN; BACK 7; STORE 7; INT 4; RETURN"));
         due.is("BACK r just behind b", 5, unfoldOf("GOSUB 4; INT 4; RETURN; NOP; STORE 7; BACK 7"));
+        FrameForge old = Words.forge(0, "10*BACK 7");
+        Words.put(old, 0, 0, "GOSUB 3; INT 4; RETURN; STORE 7; INT 4; RETURN");
+        due.is("a BACK of the METHOD that was there before", NONE, unfold(old, 0, 0));
     }
 
     private static void plainBetween() {
@@ -245,6 +258,15 @@ final class BoundsOfRewritingTest {
                 FrameForge front = Words.forge(0, "INT 4; RETURN; " + jump + place + "; " + body + "GOSUB 3");
                 due.is(jump + place + " in front of b", into ? NONE : 11, unfold(front, 0, 8));
             }
+        }
+    }
+
+    private static void plainPlaceAtTheBegin() {
+        int[] places = {4, 5, 6, 8};
+        for (int place : places) {
+            // b is 3, e is 6; from PLACES 4 and 5 it goes on at 5 for ever.
+            FrameForge x = Words.forge(0, "GOTO " + place + "; GOSUB 3; NOP; STORE 7; GOTO 5; GOTO 5; BACK 7; NOP; GOTO 8");
+            due.is("GOTO " + place + " at PLACE 0", place == 8 ? 10 : place == 6 ? WRONG : NONE, unfold(x, 0, 1));
         }
     }
 
@@ -309,6 +331,14 @@ final class BoundsOfRewritingTest {
             due.is("unfold", 12, unfold(x, 0, 6));
             due.rows("ROW " + one[0][0] + " to " + one[0][1] + " in front", x, 0, wanted(one, 11));
         }
+        due.of("for those above p (not for the copy, if it had p");
+        FrameForge had = Words.forge(1, "NOP; GOSUB 4; LOAD 0; RETURN; STORE 7; INT 6; LOAD 0; DIV; SAY; BACK 7; TYPE; RETURN");
+        had.row(0, 0, 4, 10, 1);
+        had.branch();
+        due.is("unfold", 15, unfold(had, 0, 1));
+        due.rows("a ROW of p and of no PLACE of the subroutine", had, 0, Due.in(0, 1, 13, 1), Due.in(5, 7, 13, 1));
+        due.is("what is THROWN in the copy is not HAD by it", 0, had.compare(0, 0, 0, 0));
+        due.is("it ends by what is THROWN", 17, had.run(1, 0, 99, 0, 0, 0));
         due.of("those without a PLACE are none");
         FrameForge none = Words.forge(0, "NOP; GOSUB 4; INT 0; RETURN; STORE 7; BACK 7; THROW");
         none.row(0, 1, 2, 6, 1);
@@ -505,6 +535,7 @@ final class BoundsOfRewritingTest {
             due.is("op " + op + " that is not come to", has ? NONE : 6, inline(x, 0, 1));
         }
         due.is("ENTER and LEAVE", NONE, inline(calling(false, "NEW 0; DUP; ENTER; LEAVE; LOAD 0; RETURN"), 0, 1));
+        due.is("GOSUB at PLACE 0 alone", NONE, inline(calling(false, "GOSUB 1; POP; LOAD 0; RETURN"), 0, 1));
         due.is("GOSUB and BACK", NONE, inline(calling(false, "GOSUB 3; LOAD 0; RETURN; STORE 1; BACK 1"), 0, 1));
     }
 

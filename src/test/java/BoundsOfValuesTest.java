@@ -2,6 +2,7 @@
 final class BoundsOfValuesTest {
     private static final int MIN = Integer.MIN_VALUE;
     private static final int MAX = Integer.MAX_VALUE;
+    private static final int NONE = FrameForge.NONE;
     private static final int WRONG = FrameForge.WRONG;
     private static final int BY_ZERO = 16 + 1 - 1000;
     private static final int BY_NULL = 16 + 2 - 1000;
@@ -11,6 +12,7 @@ final class BoundsOfValuesTest {
         numbersOfObjects();
         locals();
         stack();
+        plainOnes();
         whichIsX();
         wrapping();
         divisionByZero();
@@ -50,6 +52,11 @@ final class BoundsOfValuesTest {
             due.trace("the one that is THROWN is 1, the next one is 2", x, 17, 20, 21, 18, 19, 49, 34, 35);
             due.is("OBJECTS made", 2, x.ran(2));
         }
+        FrameForge most = Words.forge(0, "NEW 0; LEAVE; INT 0; RETURN");
+        most.row(0, 1, 2, 1, 3);
+        due.is("each INSTRUCTION makes one", FrameForge.STOPPED, most.run(0, 0, 1000, 0, 0, 0));
+        due.is("1000 OBJECTS", 1000, most.ran(2));
+        due.is("entries of each but the first", 1 + 3 * 999, most.ran(4));
     }
 
     private static void locals() {
@@ -92,6 +99,25 @@ final class BoundsOfValuesTest {
         FrameForge own = Words.forge(0, "5*INT 1; 3*INT 2; CALL 1; 5*ADD; RETURN");
         Words.put(own, 1, 3, "8*LOAD 2; " + sum);
         runs("each FRAME has a STACK of its own", own, 0, 21);
+    }
+
+    private static void plainOnes() {
+        due.of("0 NOP.");
+        FrameForge nops = Words.forge(0, "58*NOP; INT 3; RETURN");
+        runs("58 NOPS", nops, 0, 3);
+        due.is("INSTRUCTIONS", 60, nops.ran(1));
+        due.is("entries", 0, nops.ran(4));
+        due.of("1 INT a.");
+        due.is("the least", MIN, Words.value(0, 0, "INT " + MIN + "; RETURN"));
+        due.is("the greatest", MAX, Words.value(0, 0, "INT " + MAX + "; RETURN"));
+        due.of("4 POP.");
+        due.is("POP", 7, Words.value(7, 2, "LOAD 0; LOAD 1; POP; RETURN"));
+        due.of("5 DUP.");
+        due.is("DUP", 49, Words.value(7, 2, "LOAD 0; DUP; MUL; RETURN"));
+        due.is("DUP of an OBJECT is the same OBJECT", 9, Words.value(0, 0, "NEW 0; DUP; INT 9; PUT; GET; RETURN"));
+        due.of("11 GOTO b.");
+        due.is("GOTO PLACE 59", 8, Words.value(0, 0, "GOTO 58; 57*NOP; INT 8; RETURN"));
+        due.is("GOTO the PLACE behind", 8, Words.value(0, 0, "GOTO 1; INT 8; RETURN"));
     }
 
     private static void whichIsX() {
@@ -294,7 +320,7 @@ final class BoundsOfValuesTest {
         }
         due.is("neither POP, DUP, SWAP, STORE, LOAD nor IF NULL of null", 4,
             Words.value(0, 0, "NULL; DUP; SWAP; POP; STORE 7; LOAD 7; IFNULL 7; INT 4; RETURN"));
-        due.is("null that is GOT from nowhere", BY_NULL, Words.value(0, 0, "NULL; GET; RETURN"));
+        due.is("null above an OBJECT", BY_NULL, Words.value(0, 0, "NEW 5; NULL; TYPE; RETURN"));
     }
 
     private static void thrownByLeave() {
@@ -401,11 +427,16 @@ final class BoundsOfValuesTest {
         due.is("none of seven", 23, eighth.run(0, 0, 9, 0, 0, 0));
         eighth.row(0, 1, 2, 2, 7);
         runs("the eighth one", eighth, 0, 7);
+        FrameForge noneOfEight = Words.forge(0, "NEW 7; THROW; TYPE; RETURN");
+        for (int r = 0; r < 8; r++) {
+            noneOfEight.row(0, 1, 2, 2, 6);
+        }
+        due.is("none of eight", 23, noneOfEight.run(0, 0, 9, 0, 0, 0));
     }
 
     private static void whatARowDoes() {
         due.of("the STACK is that OBJECT alone, and it goes on at PLACE at");
-        FrameForge x = Words.forge(0, "8*NOP; 7*INT 1; NEW 3; THROW; DUP; GET; SAY; TYPE; RETURN");
+        FrameForge x = Words.forge(0, "8*NOP; 7*INT 0; NEW 3; THROW; DUP; GET; SAY; TYPE; RETURN");
         x.row(0, 16, 17, 17, 3);
         due.is("how many VALUES", 1, x.kindAt(0, 17, -1));
         runs("a full STACK", x, 0, 3);
@@ -469,7 +500,23 @@ final class BoundsOfValuesTest {
         FrameForge stopped = Words.forge(0, "NEW 0; ENTER; GOTO 2");
         due.is("a run that is STOPPED", FrameForge.STOPPED, stopped.run(0, 0, 9, 0, 0, 0));
         due.trace("LEAVES nothing", stopped, 1, 18);
+        due.is("nor does the next run", FrameForge.STOPPED, stopped.run(0, 0, 1, 0, 0, 0));
+        due.trace("nor does the next run", stopped, 1);
         locksOfEachFrame();
+        manyLocks();
+    }
+
+    private static void manyLocks() {
+        FrameForge x = Words.forge(1, "NEW 0; STORE 1; " + "LOAD 1; ENTER; ".repeat(20) + "INC 0 -1; LOAD 0; IF 1 2; LOAD 1; LEAVE; INT 5; RETURN");
+        due.is("400 ENTERS, one LEAVE", 19, x.run(0, 0, 1000, 20, 0, 0));
+        due.is("INSTRUCTIONS", 2 + 20 * 43 + 4, x.ran(1));
+        due.is("each one is LEFT", 1 + 400 + 1 + 399 + 2, x.ran(4));
+        due.is("OBJECTS", 2, x.ran(2));
+        for (int i = 0; i < 4; i++) {
+            due.is("STOPPED with locks", FrameForge.STOPPED, x.run(0, 0, 1000, 0, 0, 0));
+        }
+        due.is("20 ENTERS, one LEAVE, after that", 19, x.run(0, 0, 1000, 1, 0, 0));
+        due.is("each one is LEFT, after that", 1 + 20 + 1 + 19 + 2, x.ran(4));
     }
 
     private static void locksOfEachFrame() {
@@ -537,6 +584,22 @@ final class BoundsOfValuesTest {
             x.run(0, 0, 99, 0, 0, 0);
             due.trace("TYPE " + type, x, 16 * type + 1, 18, 19, 16 * type + 1, 16 * type + 4, 16 * type + 5);
         }
+        due.of("2 a lock is ENTERED, 3 LEFT (the number of the OBJECT, or 4000 and that of the METHOD)");
+        FrameForge many = Words.forge(1, "NEW 0; STORE 1; INC 0 -1; LOAD 0; IF 1 0; LOAD 1; DUP; ENTER; LEAVE; INT 0; RETURN");
+        many.run(0, 0, 1000, 110, 0, 0);
+        due.is("ENTERED", 110 * 16 + 2, many.trace(110));
+        due.is("LEFT", 110 * 16 + 3, many.trace(111));
+        due.is("none behind", NONE, many.trace(112));
+        for (int m = 0; m < 6; m++) {
+            FrameForge lock = new FrameForge();
+            Words.putLocked(lock, m, 0, "INT 0; RETURN");
+            lock.run(0, m, 9, 0, 0, 0);
+            due.trace("METHOD " + m, lock, (4000 + m) * 16 + 2, (4000 + m) * 16 + 3);
+        }
+        due.of("4 something is THROWN by an INSTRUCTION, or as a FRAME ends by LOCK (its TYPE");
+        FrameForge both = Words.forge(0, "NEW 4; DUP; ENTER; THROW");
+        both.run(0, 0, 9, 0, 0, 0);
+        due.trace("both", both, 65, 18, 68, 19, 49, 52);
         due.of("not again at the CALL below), behind the entry that it is made, if it is");
         FrameForge x = Words.forge(0, "CALL 1; RETURN; THROW");
         Words.put(x, 1, 0, "INT 1; INT 0; DIV; RETURN");

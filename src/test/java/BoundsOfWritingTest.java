@@ -31,6 +31,7 @@ final class BoundsOfWritingTest {
         table();
         tableOfTheMethod();
         onlyWhatIsWritten();
+        calls512();
         due.end();
     }
 
@@ -472,6 +473,18 @@ final class BoundsOfWritingTest {
             due.is("the most, what " + what, most[what], x.table(5, -1, what));
             due.is("the least, what " + what, 0, x.table(4, -1, what));
         }
+    }
+
+    private static void calls512() {
+        due.of("at most 512 calls after it has been made");
+        FrameForge x = new FrameForge();
+        for (int i = 0; i < 60; i++) {
+            due.is("add", i + 1, x.add(0, i < 59 ? 0 : 11, 0, 59));
+        }
+        for (int i = 0; i < 451; i++) {
+            due.is("run", FrameForge.STOPPED, x.run(0, 0, 1000, 0, 0, 0));
+        }
+        due.is("call 512", 1000, x.ran(1));
     }
 
     private static void onlyWhatIsWritten() {
