@@ -88,7 +88,8 @@ final class BoundsOfRewritingTest {
     private static void placesOfRows() {
         due.of("as from, to or at of a ROW, becomes n - 1 more");
         // The CALL is at 2, and 3 INSTRUCTIONS come in its stead; 4 is a THROW.
-        int[][] spans = {{0, 1, 0, 1}, {0, 2, 0, 2}, {0, 3, 0, 5}, {1, 2, 1, 2}, {2, 3, 2, 5}, {2, 4, 2, 6}, {3, 4, 5, 6}, {0, 60, 0, 62}, {59, 60, 61, 62}};
+        int[][] spans = {
+            {0, 1, 0, 1}, {0, 2, 0, 2}, {0, 3, 0, 5}, {1, 2, 1, 2}, {2, 3, 2, 5}, {2, 4, 2, 6}, {3, 4, 5, 6}, {0, 60, 0, 62}, {59, 60, 61, 62}};
         for (int[] span : spans) {
             FrameForge x = Words.forge(0, "2*NOP; CALL 1; RETURN; THROW");
             Words.put(x, 1, 0, "NOP; INT 0; RETURN");
@@ -208,6 +209,7 @@ final class BoundsOfRewritingTest {
         due.is("BACK r first, then of another LOCAL", 9, unfoldOf("GOSUB 3; INT 4; RETURN; STORE 7; GOTO 6; NOP; BACK 7; BACK 6"));
         due.is("BACK r twice", 9, unfoldOf("GOSUB 3; INT 4; RETURN; STORE 7; GOTO 6; NOP; BACK 7; BACK 7"));
         due.is("no BACK", NONE, unfoldOf("GOSUB 3; INT 4; RETURN; STORE 7; INT 4; RETURN"));
+        due.is("no BACK up to PLACE 59", NONE, unfoldOf("GOSUB 3; INT 4; RETURN; STORE 7; 54*NOP; INT 4; RETURN"));
         due.is("BACK in front of b alone", NONE, unfoldOf("GOSUB 4; INT 4; RETURN; BACK 7; STORE 7; INT 4; RETURN"));
         due.is("BACK r just behind b", 5, unfoldOf("GOSUB 4; INT 4; RETURN; NOP; STORE 7; BACK 7"));
         FrameForge old = Words.forge(0, "10*BACK 7");
@@ -312,25 +314,38 @@ final class BoundsOfRewritingTest {
         // The GOSUB is at 3, the subroutine from 6 to 10, the copy from 3 to 5; 11 is a THROW.
         int[][][] behind = {
             {{0, 1}, {0, 1}}, {{0, 3}, {0, 3}}, {{0, 4}, {0, 3}}, {{2, 3}, {2, 3}}, {{2, 4}, {2, 3}}, {{3, 4}}, {{3, 5}, {6, 7}}, {{4, 5}, {6, 7}},
-            {{2, 5}, {2, 3}, {6, 7}}, {{4, 7}, {6, 9}}, {{4, 8}, {3, 4}, {6, 10}}, {{6, 7}, {8, 9}}, {{7, 8}, {3, 4}, {9, 10}}, {{9, 10}, {5, 6}, {11, 12}},
-            {{7, 10}, {3, 6}, {9, 12}}, {{10, 11}, {12, 13}}, {{9, 11}, {5, 6}, {11, 13}}, {{0, 12}, {0, 3}, {3, 6}, {6, 14}}, {{3, 8}, {3, 4}, {6, 10}},
-            {{11, 12}, {13, 14}}, {{0, 60}, {0, 3}, {3, 6}, {6, 62}}, {{59, 60}, {61, 62}}};
+            {{2, 5}, {2, 3}, {6, 7}}, {{4, 7}, {6, 9}}, {{4, 8}, {3, 4}, {6, 10}}, {{6, 7}, {8, 9}}, {{7, 8}, {3, 4}, {9, 10}},
+            {{9, 10}, {5, 6}, {11, 12}}, {{7, 10}, {3, 6}, {9, 12}}, {{10, 11}, {12, 13}}, {{9, 11}, {5, 6}, {11, 13}},
+            {{0, 12}, {0, 3}, {3, 6}, {6, 14}}, {{3, 8}, {3, 4}, {6, 10}}, {{11, 12}, {13, 14}},
+            {{0, 60}, {0, 3}, {3, 6}, {6, 62}}, {{59, 60}, {61, 62}}};
         for (int[][] one : behind) {
             FrameForge x = Words.forge(0, "3*NOP; GOSUB 6; INT 0; RETURN; STORE 7; 3*NOP; BACK 7; THROW");
             x.row(0, one[0][0], one[0][1], 11, 4);
             due.is("unfold", 14, unfold(x, 0, 3));
             due.rows("ROW " + one[0][0] + " to " + one[0][1], x, 0, wanted(one, 13));
         }
+        unfoldRowsInFront();
+        unfoldRowsOfP();
+        unfoldRowsWithoutAPlace();
+        unfoldRowsDoTheSame();
+    }
+
+    private static void unfoldRowsInFront() {
+        due.of("for what it has of those between b and e, as they are in the copy");
         // The subroutine is from 1 to 5, the GOSUB at 6, the copy from 6 to 8; 9 is a THROW.
         int[][][] front = {
             {{0, 1}, {0, 1}}, {{1, 2}, {1, 2}}, {{2, 3}, {2, 3}, {6, 7}}, {{4, 5}, {4, 5}, {8, 9}}, {{5, 6}, {5, 6}}, {{6, 7}}, {{7, 8}, {9, 10}},
-            {{5, 7}, {5, 6}}, {{6, 8}, {9, 10}}, {{5, 8}, {5, 6}, {9, 10}}, {{0, 9}, {0, 6}, {6, 9}, {9, 11}}, {{3, 7}, {3, 6}, {7, 9}}, {{0, 60}, {0, 6}, {6, 9}, {9, 62}}};
+            {{5, 7}, {5, 6}}, {{6, 8}, {9, 10}}, {{5, 8}, {5, 6}, {9, 10}}, {{0, 9}, {0, 6}, {6, 9}, {9, 11}}, {{3, 7}, {3, 6}, {7, 9}},
+            {{0, 60}, {0, 6}, {6, 9}, {9, 62}}};
         for (int[][] one : front) {
             FrameForge x = Words.forge(0, "GOTO 6; STORE 7; 3*NOP; BACK 7; GOSUB 1; INT 0; RETURN; THROW");
             x.row(0, one[0][0], one[0][1], 9, 4);
             due.is("unfold", 12, unfold(x, 0, 6));
             due.rows("ROW " + one[0][0] + " to " + one[0][1] + " in front", x, 0, wanted(one, 11));
         }
+    }
+
+    private static void unfoldRowsOfP() {
         due.of("for those above p (not for the copy, if it had p");
         FrameForge had = Words.forge(1, "NOP; GOSUB 4; LOAD 0; RETURN; STORE 7; INT 6; LOAD 0; DIV; SAY; BACK 7; TYPE; RETURN");
         had.row(0, 0, 4, 10, 1);
@@ -339,6 +354,9 @@ final class BoundsOfRewritingTest {
         due.rows("a ROW of p and of no PLACE of the subroutine", had, 0, Due.in(0, 1, 13, 1), Due.in(5, 7, 13, 1));
         due.is("what is THROWN in the copy is not HAD by it", 0, had.compare(0, 0, 0, 0));
         due.is("it ends by what is THROWN", 17, had.run(1, 0, 99, 0, 0, 0));
+    }
+
+    private static void unfoldRowsWithoutAPlace() {
         due.of("those without a PLACE are none");
         FrameForge none = Words.forge(0, "NOP; GOSUB 4; INT 0; RETURN; STORE 7; BACK 7; THROW");
         none.row(0, 1, 2, 6, 1);
@@ -347,7 +365,6 @@ final class BoundsOfRewritingTest {
         none.row(0, 0, 2, 6, 4);
         due.is("unfold to nothing", 6, unfold(none, 0, 1));
         due.rows("unfold to nothing", none, 0, Due.in(3, 5, 5, 2), Due.in(1, 2, 5, 3), Due.in(0, 1, 5, 4));
-        unfoldRowsDoTheSame();
     }
 
     private static int[][] wanted(int[][] parts, int at) {
@@ -454,7 +471,9 @@ final class BoundsOfRewritingTest {
     private static void inlineRows() {
         due.of("those of c, so moved (to being no more than the end of its CODE; one without a PLACE of it is none), then those of m");
         // METHOD c has PLACES 0 to 3, which come to be 2 to 5.
-        int[][] spans = {{0, 1, 2, 3}, {0, 3, 2, 5}, {0, 4, 2, 6}, {0, 5, 2, 6}, {0, 60, 2, 6}, {3, 4, 5, 6}, {3, 5, 5, 6}, {3, 60, 5, 6}, {4, 5}, {4, 60}, {59, 60}};
+        int[][] spans = {
+            {0, 1, 2, 3}, {0, 3, 2, 5}, {0, 4, 2, 6}, {0, 5, 2, 6}, {0, 60, 2, 6}, {3, 4, 5, 6}, {3, 5, 5, 6}, {3, 60, 5, 6},
+            {4, 5}, {4, 60}, {59, 60}};
         for (int[] span : spans) {
             FrameForge x = Words.forge(0, "INT 3; CALL 1; RETURN; THROW");
             x.row(0, 1, 2, 3, 7);

@@ -169,8 +169,9 @@ final class BoundsOfRunsTest {
         x.row(0, 1, 2, 2, 0);
         x.run(0, 0, 99, 0, 0, 0);
         int[] want = {42, 7, 1, 1, 4, 1};
-        for (int i = 0; i < 3; i++) {
-            due.is("call " + i, i == 0 ? WRONG : REFUSED, i == 0 ? x.run(0, 1, 9, 0, 0, 0) : i == 1 ? x.run(0, 6, 9, 0, 0, 0) : x.run(0, 0, 1001, 0, 0, 0));
+        int[][] calls = {{0, 1, 9, WRONG}, {0, 6, 9, REFUSED}, {2, 0, 9, REFUSED}, {0, 0, 1001, REFUSED}};
+        for (int[] call : calls) {
+            due.is("run", call[3], x.run(call[0], call[1], call[2], 0, 0, 0));
             for (int what = 0; what < 6; what++) {
                 due.is("ran(" + what + ")", want[what], x.ran(what));
             }

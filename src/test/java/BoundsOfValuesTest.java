@@ -440,6 +440,9 @@ final class BoundsOfValuesTest {
         x.row(0, 16, 17, 17, 3);
         due.is("how many VALUES", 1, x.kindAt(0, 17, -1));
         runs("a full STACK", x, 0, 3);
+        FrameForge room = Words.forge(0, "8*NULL; THROW; 7*INT 2; 6*ADD; RETURN");
+        room.row(0, 8, 9, 9, 2);
+        runs("there is room for seven more then", room, 0, 14);
         FrameForge same = Words.forge(0, "NEW 3; STORE 0; LOAD 0; INT 44; PUT; LOAD 0; THROW; GET; RETURN");
         same.row(0, 6, 7, 7, 0);
         runs("it is that very OBJECT", same, 0, 44);
