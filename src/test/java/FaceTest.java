@@ -2,20 +2,17 @@ import java.lang.reflect.Constructor;
 import java.lang.reflect.Field;
 import java.lang.reflect.Method;
 import java.lang.reflect.Modifier;
-import java.nio.file.Files;
-import java.nio.file.Path;
 import java.util.List;
 import java.util.Set;
 import java.util.TreeSet;
 
-/** The public face is that of the document and no more; the source keeps to what can be seen of LANGUAGE.md. */
+/** The public face is that of the document and no more. */
 final class FaceTest {
     private static final Due due = new Due();
 
     public static void main(String[] args) throws Exception {
         face();
         constants();
-        source();
         due.end();
     }
 
@@ -77,12 +74,5 @@ final class FaceTest {
         }
         Set<String> want = new TreeSet<>(List.of("REFUSED -1", "NONE -2", "FULL -3", "WRONG -4", "STOPPED -5"));
         due.yes("the constants " + got, got.equals(want));
-    }
-
-    private static void source() throws Exception {
-        String text = Files.readString(Path.of("src/main/java/FrameForge.java"));
-        for (String word : List.of("import ", "package ", "throw new", "try ", "synchronized", "->", "::", "assert ", "instanceof")) {
-            due.no("the source has " + word, text.contains(word));
-        }
     }
 }
